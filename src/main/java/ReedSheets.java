@@ -1267,12 +1267,17 @@ public final class ReedSheets {
             return yearOf(sheet) - page.age[line] + page.slack(line);
         }
 
+        /** Whether LINES of two SHEETS could be ONE at all. */
+        boolean canShareLines(int sheet, int other) {
+            return pageOf(sheet) != null && pageOf(other) != null
+                    && village[sheet] == village[other] && count[sheet] != count[other];
+        }
+
         /** The LINE of another SHEET that is ONE with a LINE, at most one as a NAME is there once. */
         int lineThatIsOne(int sheet, int line, int other) {
             Page here = pageOf(sheet);
             Page there = pageOf(other);
-            if (here == null || there == null || !here.has(line)
-                    || village[sheet] != village[other] || count[sheet] == count[other]) {
+            if (here == null || there == null || !here.has(line) || !canShareLines(sheet, other)) {
                 return NONE;
             }
             int found = there.lineOf(here.name[line]);
@@ -1334,7 +1339,7 @@ public final class ReedSheets {
         private int join(Shelf shelf, int s, int t) {
             Page here = shelf.pageOf(s);
             Page there = shelf.pageOf(t);
-            if (here == null || there == null) {
+            if (here == null || there == null || !shelf.canShareLines(s, t)) {
                 return 0;
             }
             int n = 0;

@@ -264,6 +264,10 @@ public final class PromiseTest {
             fault(x, "man a 5;woman b 5 wife " + word + ";", 1, 23);
         }
         fault(x, "man a 5 father 5;", 1, 15);
+        fault(x, "man a 55555;", 1, 6);
+        fault(x, "man a 5", 1, 7);
+        fault(x, "man abcde 5;;", 1, 12);
+        fault(x, "man ab", 1, 6);
         fault(x, "man a 5 mother;", 1, 14);
     }
 
@@ -908,6 +912,10 @@ public final class PromiseTest {
         lawFault(x, "let when 1 not 2;", 1, 11);
         lawFault(x, "let when father;", 1, 9);
         lawFault(x, "let when let;", 1, 9);
+        lawFault(x, "let when when;", 1, 9);
+        lawFault(x, "let when and;", 1, 9);
+        lawFault(x, "let when or 1;", 1, 9);
+        lawFault(x, "let when 1 and or 1;", 1, 15);
         lawFault(x, "let when 1>2;", 1, 10);
         lawFault(x, "let when Gap;", 1, 9);
         lawFault(x, "let when (((((1)))));", 5, 14);
@@ -1033,6 +1041,16 @@ public final class PromiseTest {
             x.table(2, k, 0);
         }
         due("39: nobody lives", x.world(3, 20, 2, 5, 7, 0), 0);
+        // Seed 60: one boy, whose third DRAW is 3170.
+        for (int n = 634; n <= 635; n++) {
+            for (int k = 0; k <= 16; k++) {
+                x.table(3, k, n);
+            }
+            due("39: alive if it is below AT", x.world(60, 1, 3, 0, 0, 0), n - 634);
+        }
+        // Seed 5344: the youngest of the 38th house is a boy of 15.
+        due("39: 37 houses", x.world(5344, 37, 1, 0, 0, 0), 75);
+        due("39: a man of 15", x.world(5344, 38, 1, 0, 0, 0), 78);
         due("39: odds 0", x.world(3, 40, 1, 30, 0, 1), 0);
         due("39: w 0", x.world(3, 40, 1, 0, 10, 1), 0);
         due("40: no READ MARRIAGE", x.rates(5, 5, 0, 5, 5), NONE);
@@ -1106,8 +1124,25 @@ public final class PromiseTest {
         due("42: without those perhaps", 10 * x.reading(6, 0) + x.reading(6, 1), 14);
         due("42: without those perhaps, without 1", 10 * x.reading(7, 0) + x.reading(7, 1), 14);
         due("42: 0 and 2", 10 * x.reading(8, 0) + x.reading(8, 1), 12);
+        allSheets();
         due("41: the greatest is the first", x.readings(6), 2);
         due("41: the least is the first", x.readings(3), 1);
+    }
+
+    private static void allSheets() {
+        ReedSheets x = new ReedSheets();
+        for (int s = 0; s < 24; s++) {
+            put(x, s, s % 6, s % 8, s < 23 ? NO_ONE : "man a 5 taken;woman b 5 wife a sister a;");
+        }
+        due("41: all SHEETS", x.readings(0), 9 * 25);
+        due("42: the last one, the CALLED one is left out", x.reading(224, 1), 1);
+        due("42: the last one", x.reading(224, 0), 0);
+        due("42: 0 and 2, all", 100 * x.reading(75, 0) + x.reading(75, 1), 124);
+        due("42: 0 and 2, without 0", 100 * x.reading(76, 0) + x.reading(76, 1), 123);
+        due("42: 225", x.reading(225, 0), NONE);
+        due("41: the greatest", x.readings(6), 76);
+        due("46: told", x.count(0), 24);
+        due("46: houses", x.count(3), 24);
     }
 
     private static void youngOnes() {
@@ -1132,6 +1167,8 @@ public final class PromiseTest {
         x.sheet(2, 1, 4);
         x.may(2, 9);
         x.side(1, 1);
+        x.side(0, 1);
+        x.side(5, 1);
         due("45: nothing on it", x.mark(3, true), false);
         due("45: laid", x.mark(3, false), true);
         due("45: none such", x.mark(4, false), false);
@@ -1139,6 +1176,8 @@ public final class PromiseTest {
         put(x, 0, 2, 2, NO_ONE);
         x.may(2, 1);
         x.side(1, 0);
+        x.side(0, 0);
+        x.side(5, 0);
         x.sheet(5, 0, 0);
         x.forget(1);
         feed(x, "let when 1;");
@@ -1161,7 +1200,9 @@ public final class PromiseTest {
         due("45: tables stay", x.at(0, 15), 25);
         x.read(23);
         put(x, 2, 1, 4, NO_ONE);
-        due("45: side 1", x.marriages(3, 1, NONE), 1);
+        due("45: side 1", x.marriages(3, 1, NONE), 5);
+        put(x, 3, 5, 4, NO_ONE);
+        due("45: side 1", x.marriages(3, 1, NONE), 6);
         due("45: back to the other", x.mark(0, true), true);
         due("45: one READ", x.count(1), 1);
         due("45: of two LINES", x.lines(0), 2);
