@@ -1071,7 +1071,10 @@ public final class ReedSheets {
                 if (n == MOST_LINES) {
                     return tape.fault(FAULT_MANY);
                 }
-                int fault = parseLine(n, word == WOMAN);
+                int fault = parseHead(n, word == WOMAN);
+                if (fault == 0) {
+                    fault = parseTags(n);
+                }
                 if (fault != 0) {
                     return fault;
                 }
@@ -1080,7 +1083,7 @@ public final class ReedSheets {
             return 0;
         }
 
-        private int parseLine(int n, boolean woman) {
+        private int parseHead(int n, boolean woman) {
             page.woman[n] = woman;
             page.husband[n] = NONE;
             page.sworn[n] = NONE;
@@ -1100,7 +1103,7 @@ public final class ReedSheets {
                 return tape.fault(FAULT_NUMBER);
             }
             page.age[n] = (int) tape.value;
-            return parseTags(n);
+            return 0;
         }
 
         private boolean isName() {
@@ -1273,13 +1276,18 @@ public final class ReedSheets {
                     && village[sheet] == village[other] && count[sheet] != count[other];
         }
 
-        /** The LINE of another SHEET that is ONE with a LINE, at most one as a NAME is there once. */
+        /** The LINE of another SHEET that is ONE with a LINE. */
         int lineThatIsOne(int sheet, int line, int other) {
             Page here = pageOf(sheet);
             Page there = pageOf(other);
             if (here == null || there == null || !here.has(line) || !canShareLines(sheet, other)) {
                 return NONE;
             }
+            return match(sheet, here, line, other, there);
+        }
+
+        /** The same of two SHEETS that can share LINES; there is at most one, as a NAME is there once. */
+        int match(int sheet, Page here, int line, int other, Page there) {
             int found = there.lineOf(here.name[line]);
             if (found == NONE || here.woman[line] != there.woman[found] || !here.isFull(line, there, found)) {
                 return NONE;
@@ -1344,7 +1352,7 @@ public final class ReedSheets {
             }
             int n = 0;
             for (int i = 0; i < here.size; i++) {
-                int j = shelf.lineThatIsOne(s, i, t);
+                int j = shelf.match(s, here, i, t, there);
                 if (j != NONE) {
                     n++;
                     narrow(s * MOST_LINES + i, shelf.firstBorn(t, there, j), shelf.lastBorn(t, there, j));
@@ -1369,7 +1377,7 @@ public final class ReedSheets {
             }
         }
 
-        /** Counts the LINES of a later SHEET that are LEFT OUT of one. */
+        /** Counts the LINES of a later SHEET of ONE HOUSE that are LEFT OUT of one. */
         private void seekLeftOut(Shelf shelf, int sheet, int later) {
             Page page = shelf.pageOf(sheet);
             Page there = shelf.pageOf(later);
@@ -1381,7 +1389,7 @@ public final class ReedSheets {
                 int from = first[later * MOST_LINES + i];
                 int to = last[later * MOST_LINES + i];
                 if (from <= to && from < year && page.hasParentOf(there, i)
-                        && shelf.lineThatIsOne(later, i, sheet) == NONE) {
+                        && shelf.match(later, there, i, sheet, page) == NONE) {
                     leftOut[sheet * 4 + (there.woman[i] ? 2 : 0) + (to < year ? 0 : 1)]++;
                 }
             }
