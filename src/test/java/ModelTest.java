@@ -14,7 +14,7 @@ import java.util.function.ToIntFunction;
 import java.util.regex.Matcher;
 import java.util.regex.Pattern;
 
-/** Runs of drawn calls, answered by the class and by a slow model that was written from the document alone. */
+/** Runs of drawn calls, answered by the class and by a slow model that was written anew from the document (by the same reader: it shares what that one misread). */
 public final class ModelTest {
     private static final int NONE = -1;
     private static final long THROWS = Long.MIN_VALUE;

@@ -1,6 +1,6 @@
 import java.util.NoSuchElementException;
 
-/** Each promise of the document with answers worked out by hand. */
+/** Each promise of the document, with answers worked out by hand; those of WORLDS are from a script or the shared test. */
 public final class PromiseTest {
     private static final int NONE = ReedSheets.NONE;
     private static int wrong = 0;
