@@ -28,6 +28,15 @@ public final class EdgesOfHousesTest {
             Edges.put(x, 1, 0, 0, "man a 11;");
             Edges.dueFraction("5 of 6", x.heaping(0, 0, 0), x.heaping(0, 0, 1), 5, 6);
         });
+        Edges.edge("19: of 12 LINES", () -> {
+            StringBuilder text = new StringBuilder();
+            for (char name = 'a'; name < 'm'; name++) {
+                text.append("man ").append(name).append(name == 'l' ? " 10;" : " 11;");
+            }
+            ReedSheets x = Edges.with(text.toString());
+            Edges.put(x, 23, 5, 7, text.toString());
+            Edges.dueFraction("10 of 24", x.heaping(0, 0, 0), x.heaping(0, 0, 1), 5, 12);
+        });
         Edges.edge("19: NONE: no such AGE", () -> {
             ReedSheets x = Edges.with("man a 9;man b 70;");
             Edges.due("above", x.heaping(0, 0, 0), NONE);
@@ -271,6 +280,29 @@ public final class EdgesOfHousesTest {
             x.forget(7);
             Edges.due("one less", x.count(3), 23);
         });
+        Edges.edge("21: asked when it is told, asked anew when it is READ, when it is told anew, when it is forgotten", () -> {
+            ReedSheets x = Edges.with(brood("ab", 2));
+            x.sheet(1, 0, 1);
+            Edges.due("told", x.house(0, 1), NONE);
+            Edges.due("HOUSES", x.count(3), 1);
+            Edges.read(x, 1, brood("ac", 16));
+            Edges.due("READ", x.house(0, 1), 0);
+            Edges.due("HOUSES", x.count(3), 2);
+            Edges.read(x, 1, brood("ab", 16));
+            Edges.due("READ again", x.house(0, 1), 1);
+            Edges.due("a FAULT", Edges.read(x, 1, "man ("), 1 + 16 * 4);
+            Edges.due("it stays", x.house(0, 1), 1);
+            Edges.put(x, 2, 0, 2, brood("ab", 30));
+            Edges.due("three", x.count(3), 1);
+            x.forget(1);
+            Edges.due("forgotten", x.house(0, 2), 1);
+            x.sheet(2, 0, 2);
+            Edges.due("told anew", x.count(3), 1);
+            Edges.read(x, 1, brood("ab", 16));
+            Edges.due("READ", x.house(0, 1), 1);
+            x.sheet(1, 1, 1);
+            Edges.due("told anew", x.count(3), 1);
+        });
         Edges.edge("21: told of another VILLAGE or COUNT, it is asked anew", () -> {
             ReedSheets x = Edges.with(brood("ab", 2));
             Edges.put(x, 1, 0, 1, brood("ab", 16));
@@ -351,12 +383,43 @@ public final class EdgesOfHousesTest {
             known(x, 1, 2, -4, -4);
             known(x, 0, 0, -22, -19);
         });
-        Edges.edge("22: one forgotten does not count", () -> {
+        Edges.edge("22: one forgotten or told anew does not count", () -> {
             ReedSheets x = Edges.with("man a 20" + FG);
             Edges.put(x, 1, 0, 1, "man a 35" + FG);
             known(x, 0, 0, -22, -19);
             x.forget(1);
             known(x, 0, 0, -22, -18);
+            Edges.read(x, 1, "man a 35" + FG);
+            known(x, 0, 0, -22, -19);
+            x.sheet(1, 0, 1);
+            known(x, 0, 0, -22, -18);
+        });
+        Edges.edge("22: each LINE for itself, of 12 on either SHEET", () -> {
+            // h to s of AGE 20 at COUNT 0; at COUNT 1, the other way round, of 32, 33, 34 and 36 years
+            StringBuilder here = new StringBuilder();
+            StringBuilder there = new StringBuilder();
+            int[] born = {-18, -19, -20, -22, -18, -19, -20, -22, -18, -19, -20, -22};
+            for (int i = 0; i < 12; i++) {
+                here.append("man ").append((char) ('h' + i)).append(" 20").append(FG);
+                there.append("man ").append((char) ('s' - i)).append(' ').append(14 - born[11 - i]).append(FG);
+            }
+            ReedSheets x = Edges.with(here.toString());
+            Edges.put(x, 23, 0, 1, there.toString());
+            for (int i = 0; i < 12; i++) {
+                known(x, 0, i, born[i], born[i]);
+                known(x, 23, 11 - i, born[i], born[i]);
+            }
+        });
+        Edges.edge("22: each LINE of the later SHEET for itself", () -> {
+            // -23 to -19 each at COUNT 1; at COUNT 0 in -23, -22, -21 and -19
+            ReedSheets x = new ReedSheets();
+            Edges.put(x, 1, 0, 1, "man a 35" + FG + "man b 35" + FG + "man c 35" + FG + "man d 35" + FG + "man e 35" + FG);
+            Edges.put(x, 0, 0, 0, "man d 19" + FG + "man b 22" + FG + "man a 23" + FG + "man c 21" + FG);
+            int[] born = {-23, -22, -21, -19};
+            for (int i = 0; i < 4; i++) {
+                known(x, 1, i, born[i], born[i]);
+            }
+            known(x, 1, 4, -23, -19);
         });
         Edges.edge("22: NoSuchElementException: others", () -> {
             ReedSheets x = Edges.with("man a 20;");
@@ -541,6 +604,50 @@ public final class EdgesOfHousesTest {
             Edges.put(x, 1, 0, 2, PAIR_45 + "man c 17" + BOTH);
             Edges.put(x, 2, 0, 3, PAIR_59 + "man c 31" + BOTH);
             left(x, 0, 0, 2, 0);
+        });
+        Edges.edge("23: asked again it is the same, and anew when SHEETS change", () -> {
+            ReedSheets x = new ReedSheets();
+            Edges.put(x, 9, 0, 1, PAIR_31);
+            Edges.put(x, 0, 0, 2, PAIR_45 + "man c 17" + BOTH + "man d 15" + BOTH + "woman e 17" + BOTH + "woman h 15" + BOTH);
+            for (int i = 0; i < 3; i++) {
+                left(x, 9, 0, 1, 1);
+                left(x, 9, 1, 1, 1);
+                left(x, NONE, 1, 1, 1);
+                x.sheet(20 + i, 1, 0);
+            }
+            x.sheet(0, 0, 2);
+            left(x, 9, 0, 0, 0);
+            left(x, 9, 1, 0, 0);
+            left(x, NONE, 0, 0, 0);
+            Edges.read(x, 0, PAIR_45 + "woman e 15" + BOTH);
+            left(x, 9, 0, 0, 0);
+            left(x, 9, 1, 0, 1);
+            x.forget(0);
+            left(x, 9, 1, 0, 0);
+        });
+        Edges.edge("23: as many as can be: 10 LINES of a SHEET of 12", () -> {
+            StringBuilder ten = new StringBuilder();
+            for (char name = 'a'; name < 'k'; name++) {
+                ten.append("man ").append(name).append(" 17 father pa;");
+            }
+            ReedSheets x = new ReedSheets();
+            Edges.put(x, 22, 0, 1, PAIR_31);
+            Edges.put(x, 23, 0, 2, PAIR_45 + ten);
+            left(x, 22, 0, 10, 0);
+            Edges.due("young", x.young(0, 1), 10);
+        });
+        Edges.edge("23: one without a father, or without a mother, has none on the first one", () -> {
+            ReedSheets x = new ReedSheets();
+            String turned = "woman ma 31 father o mother p;man pa 31 father o mother p;";
+            Edges.put(x, 0, 0, 1, turned);
+            Edges.put(x, 1, 0, 2, PAIR_45 + "man c 17 father zz;man d 17 mother zz;man e 17;woman h 17;");
+            left(x, 0, 0, 0, 0);
+            left(x, 0, 1, 0, 0);
+            ReedSheets y = new ReedSheets();
+            Edges.put(y, 0, 0, 1, PAIR_31);
+            Edges.put(y, 1, 0, 2, PAIR_45 + "man c 17 father zz;man d 17 mother zz;man e 17;woman h 17;");
+            left(y, 0, 0, 0, 0);
+            left(y, 0, 1, 0, 0);
         });
         Edges.edge("23: NONE: others, not READ", () -> {
             ReedSheets x = new ReedSheets();

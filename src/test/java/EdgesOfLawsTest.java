@@ -105,6 +105,16 @@ public final class EdgesOfLawsTest {
             born(x, false, 1, 2);
             born(x, true, 1, 2);
         });
+        Edges.edge("33: of all VILLAGES, COUNTS and SIDES", () -> {
+            ReedSheets x = new ReedSheets();
+            x.side(5, 1);
+            Edges.put(x, 0, 5, 7, not);
+            Edges.put(x, 1, 4, 6, Edges.NO_ONE);
+            Edges.put(x, 2, 3, 5, surely);
+            born(x, false, 1, 2);
+            Edges.put(x, 1, 4, 6, Edges.weddings(4, 4));
+            born(x, true, 1, 3);
+        });
         Edges.edge("33: NONE: no MARRIAGE left", () -> {
             born(new ReedSheets(), false, NONE, NONE);
             born(new ReedSheets(), true, NONE, NONE);
@@ -402,6 +412,9 @@ public final class EdgesOfLawsTest {
                 value(x, es[i], want[i]);
             }
             value(x, "0009", 9);
+            value(x, "9999", 9999);
+            value(x, "9999=9998+1", 1);
+            value(x, "9998", 9998);
         });
         Edges.edge("35: and, or from the left; + - from the left; * ahead of them", () -> {
             ReedSheets x = Edges.with(Edges.FULL_ONE);

@@ -439,6 +439,24 @@ public final class EdgesOfLivesTest {
             // at 7: 3 of 10000
             sisters(x, 1, 0, WHOLE - 9997L * 9997 * 9997 * 9997, 1);
         });
+        Edges.edge("31: a part of 10 ^ 16 below one, and above", () -> {
+            // Of two men of 1 and 41 years the odds of no sister are (10000 - AT) / 10000, four times each:
+            // together 10 ^ 16 + 1 parts, or 10 ^ 16 - 1.
+            int[][] at = {{4067, 1710, 894, 2292, 521, 7, 901, 2403}, {1399, 801, 639, 3352, 311, 1489, 243, 3691}};
+            for (int t = 0; t < 2; t++) {
+                ReedSheets x = Edges.with("man a 1 father f mother g;woman b 1 wife a father f mother g;man c 41;woman d 1 wife c;");
+                for (int i = 0; i < 8; i++) {
+                    int four = Math.min(1000, at[t][i] / 4);
+                    x.table(t, 2 * i, four);
+                    x.table(t, 2 * i + 1, at[t][i] - 4 * four);
+                    Edges.due("at", x.at(t, 10 * i + 1), at[t][i]);
+                }
+                for (int years = 0; years < 40; years += 10) {
+                    x.gap(years);
+                }
+                sisters(x, t, 30, t == 0 ? WHOLE - 1 : WHOLE + 1, t == 0 ? 1 : 0);
+            }
+        });
         Edges.edge("31: 0 at least", () -> {
             ReedSheets x = Edges.with(Edges.weddings(4, 1, 2, 3));
             x.gap(0);

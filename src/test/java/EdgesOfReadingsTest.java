@@ -101,6 +101,22 @@ public final class EdgesOfReadingsTest {
                 Edges.due("what " + what, x.readings(what), want[what]);
             }
         });
+        Edges.edge("41: the least and the greatest, however near", () -> {
+            ReedSheets x = Edges.with(FULL_SURELY + HALF_ONE);
+            // 1 / 2, then 0
+            int[] want = {9, 0, 1, 1, 1, 2, 0};
+            for (int what = 0; what <= 6; what++) {
+                Edges.due("what " + what, x.readings(what), want[what]);
+            }
+            ReedSheets y = Edges.with(Edges.weddings(3, 3, 3, 4, 4, 4));
+            Edges.put(y, 1, 0, 0, Edges.weddings(3, 3, 4, 4, 4));
+            Edges.put(y, 2, 0, 0, Edges.weddings(3, 4));
+            // with 3: 6 / 13; without 0: 3 / 7; without 1: 4 / 8; without 2: 5 / 11
+            int[] of = {36, 0, 1, 0, 1, 2, 26};
+            for (int what = 0; what <= 6; what++) {
+                Edges.due("what " + what, y.readings(what), of[what]);
+            }
+        });
         Edges.edge("41: all are equal: both are the first", () -> {
             ReedSheets x = Edges.with(FULL_NOT + HALF_ONE);
             int[] want = {9, 1, 2, 0, 1, 2, 0};
@@ -175,14 +191,17 @@ public final class EdgesOfReadingsTest {
             Edges.due("0 of 1", y.says(0, 1), 2);
             Edges.due("1 of 99", y.says(1, 99), 0);
         });
-        Edges.edge("43: in one READING alone", () -> {
-            ReedSheets x = new ReedSheets();
-            for (int s = 0; s < 3; s++) {
-                Edges.put(x, s, 0, 0, s == 2 ? BROKEN_ONE : Edges.NO_ONE);
-            }
-            // with 3 of SORT 3: 1 / 3, 1 / 2, 1 / 2, 0, thrice
-            Edges.due("1 of 2", x.says(1, 2), 1);
-            Edges.due("51 of 99", x.says(51, 99), 0);
+        Edges.edge("43: in one READING alone, and in all but one", () -> {
+            ReedSheets x = Edges.with(CALLED_SURELY + CALLED_PERHAPS + BROKEN_ONE + "man r 7;woman s 7 wife r;");
+            Edges.put(x, 1, 0, 0, Edges.NO_ONE);
+            // with 2 and 3, of all, without 1: 3 of 4; the others are 2 / 3 at most
+            Edges.due("3 of 4", x.says(3, 4), 1);
+            Edges.due("67 of 99", x.says(67, 99), 1);
+            Edges.due("75 of 99", x.says(75, 99), 0);
+            ReedSheets y = Edges.with(CALLED_SURELY + CALLED_PERHAPS + FULL_NOT);
+            // SORT 0: 1 / 3, 1 / 2, 1; with 2, and 3: all
+            Edges.due("1 of 2", y.says(1, 2), 1);
+            Edges.due("1 of 3", y.says(1, 3), 2);
         });
         Edges.edge("43: a 0 to 99, b 1 to 99; NONE: others", () -> {
             ReedSheets x = Edges.with(FULL_NOT);

@@ -269,6 +269,49 @@ public final class EdgesOfSharesTest {
         });
     }
 
+    private static void ofTakenOnes() {
+        String taken = "man a 7 father f mother g taken;woman b 7 wife a father f mother g;man c 7 taken;woman d 7 wife c sister c;";
+        Edges.edge("12 to 18, 40: one who was TAKEN IN counts as any other one", () -> {
+            ReedSheets x = Edges.with(taken);
+            Edges.put(x, 1, 1, 0, Edges.weddings(0, 2, 3, 4));
+            x.side(1, 1);
+            Edges.due("all", x.marriages(0, 0, NONE), 6);
+            Edges.due("SORT 0", x.marriages(0, 0, 0), 2);
+            Edges.due("SORT 2", x.marriages(0, 0, 2), 2);
+            Edges.dueFraction("SHARE", x.share(0, 0, 0, 0), x.share(0, 0, 0, 1), 1, 3);
+            Edges.dueFraction("SHARE with 2", x.share(0, 0, 1, 0), x.share(0, 0, 1, 1), 2, 3);
+            Edges.dueFraction("SHARE of SIDE 0", x.share(3, 0, 0, 0), x.share(3, 0, 0, 1), 1, 2);
+            Edges.dueFraction("MOVE of 0", x.move(0, 0), x.move(0, 1), -1, 12);
+            Edges.dueFraction("MOVE of 1", x.move(1, 0), x.move(1, 1), 1, 6);
+            Edges.dueFraction("LEAN", x.lean(0), x.lean(1), 1, 4);
+            x.side(0, 1);
+            x.side(1, 0);
+            Edges.dueFraction("LEAN the other way", x.lean(0), x.lean(1), -1, 4);
+            x.sheet(2, 0, 0);
+            Edges.dueFraction("least", x.bounds(0), x.bounds(1), 1, 4);
+            Edges.dueFraction("greatest", x.bounds(2), x.bounds(3), 1, 2);
+        });
+        Edges.edge("18: one who was TAKEN IN counts for his VILLAGE", () -> {
+            ReedSheets x = Edges.with(taken);
+            Edges.put(x, 1, 1, 0, Edges.weddings(4));
+            x.sheet(2, 0, 0);
+            x.sheet(3, 1, 0);
+            Edges.due("1, not 2 MARRIAGES", x.next(), 3);
+        });
+        Edges.edge("40: one who was TAKEN IN counts among the READ MARRIAGES", () -> {
+            ReedSheets x = Edges.with("man a 7 father f mother g taken;woman b 7 wife a father f mother g;");
+            // 1 of 1: no WORLD but one without MARRIAGES
+            Edges.due("rates", x.rates(20, 40, 0, 0, 0), 0);
+            Edges.put(x, 0, 0, 0, taken + "man h 7;woman i 7 wife h;");
+            Edges.put(x, 1, 0, 0, Edges.weddings(4));
+            int n = 0;
+            for (int seed = 0; seed < 20; seed++) {
+                n += 4 * x.world(seed, 2, 0, 30, 6, 1) >= x.world(seed, 2, 0, 30, 6, 0) ? 1 : 0;
+            }
+            Edges.due("1 of 4", x.rates(20, 2, 0, 30, 6), n);
+        });
+    }
+
     // ---- 14: move
 
     private static void ofMoves() {
@@ -278,6 +321,12 @@ public final class EdgesOfSharesTest {
             // with both 2 / 3; without 0: 0; without 1: 1
             Edges.dueFraction("MOVE of 0", x.move(0, 0), x.move(0, 1), -2, 3);
             Edges.dueFraction("MOVE of 1", x.move(1, 0), x.move(1, 1), 1, 3);
+        });
+        Edges.edge("14: in lowest terms, below 0, too", () -> {
+            ReedSheets x = Edges.with(Edges.weddings(0, 0));
+            Edges.put(x, 1, 0, 0, Edges.weddings(4, 4));
+            Edges.dueFraction("MOVE of 0", x.move(0, 0), x.move(0, 1), -1, 2);
+            Edges.dueFraction("MOVE of 1", x.move(1, 0), x.move(1, 1), 1, 2);
         });
         Edges.edge("14: SHARE of SORT 0", () -> {
             ReedSheets x = Edges.with(Edges.weddings(0, 2, 3));
@@ -367,6 +416,15 @@ public final class EdgesOfSharesTest {
             Edges.read(x, 0, Edges.FULL_ONE);
             Edges.due("the only one", x.mover(), NONE);
         });
+        Edges.edge("15: of all READ SHEETS, of any VILLAGE, COUNT and SIDE", () -> {
+            ReedSheets x = new ReedSheets();
+            x.side(5, 1);
+            Edges.put(x, 7, 5, 7, Edges.weddings(4));
+            Edges.due("the only one", x.mover(), NONE);
+            Edges.put(x, 9, 4, 6, Edges.weddings(0, 0));
+            // with both 2 of 3; without 7: 1; without 9: 0
+            Edges.due("two", x.mover(), 9);
+        });
         Edges.edge("15: SHEETS 0 and 23", () -> {
             ReedSheets x = Edges.with(Edges.weddings(0, 4));
             Edges.put(x, 23, 0, 0, Edges.weddings(0, 0, 0));
@@ -398,6 +456,12 @@ public final class EdgesOfSharesTest {
             Edges.dueFraction("nought", x.lean(0), x.lean(1), 0, 1);
             Edges.put(x, 1, 1, 0, Edges.weddings(4, 4));
             Edges.dueFraction("1 / 2 less 0", x.lean(0), x.lean(1), 1, 2);
+        });
+        Edges.edge("16: in lowest terms, below 0, too", () -> {
+            ReedSheets x = Edges.with(Edges.weddings(4, 4));
+            Edges.put(x, 1, 1, 0, Edges.weddings(0, 4));
+            x.side(1, 1);
+            Edges.dueFraction("0 less 1 / 2", x.lean(0), x.lean(1), -1, 2);
         });
         Edges.edge("16: of SORT 0 alone", () -> {
             ReedSheets x = Edges.with(Edges.weddings(0, 2));
@@ -457,6 +521,16 @@ public final class EdgesOfSharesTest {
             ReedSheets x = Edges.with(Edges.weddings(0, 2, 3));
             Edges.dueFraction("least", x.bounds(0), x.bounds(1), 1, 3);
             Edges.dueFraction("greatest", x.bounds(2), x.bounds(3), 1, 3);
+        });
+        Edges.edge("17: of all VILLAGES, COUNTS and SIDES", () -> {
+            ReedSheets x = new ReedSheets();
+            x.side(5, 1);
+            Edges.put(x, 0, 5, 7, Edges.weddings(0, 4));
+            Edges.put(x, 1, 3, 3, Edges.weddings(4));
+            x.sheet(2, 4, 6);
+            x.sheet(3, 5, 1);
+            Edges.dueFraction("1 of 7", x.bounds(0), x.bounds(1), 1, 7);
+            Edges.dueFraction("5 of 7", x.bounds(2), x.bounds(3), 5, 7);
         });
         Edges.edge("17: none READ: from 0 to 1", () -> {
             ReedSheets x = new ReedSheets();
@@ -530,6 +604,27 @@ public final class EdgesOfSharesTest {
             x.forget(0);
             Edges.due("forgotten ones may have as many", x.next(), 0);
         });
+        Edges.edge("18: as many MARRIAGES on more SHEETS are as many", () -> {
+            ReedSheets x = Edges.with(Edges.weddings(4, 4));
+            Edges.put(x, 1, 1, 0, Edges.weddings(4));
+            Edges.put(x, 2, 1, 1, Edges.weddings(4));
+            x.sheet(5, 1, 0);
+            x.sheet(6, 0, 0);
+            Edges.due("the first", x.next(), 5);
+            x.sheet(4, 0, 0);
+            Edges.due("the first", x.next(), 4);
+        });
+        Edges.edge("18: of the VILLAGE, not of the COUNT", () -> {
+            ReedSheets x = new ReedSheets();
+            Edges.put(x, 0, 1, 4, Edges.weddings(4, 4));
+            Edges.put(x, 1, 2, 5, Edges.weddings(4));
+            x.sheet(2, 1, 3);
+            x.sheet(3, 2, 1);
+            x.sheet(4, 2, 4);
+            Edges.due("of VILLAGE 2", x.next(), 3);
+            x.sheet(2, 3, 2);
+            Edges.due("of VILLAGE 3", x.next(), 2);
+        });
         Edges.edge("18: then the first", () -> {
             ReedSheets x = Edges.with(Edges.weddings(4));
             Edges.put(x, 1, 1, 0, Edges.weddings(0));
@@ -561,6 +656,7 @@ public final class EdgesOfSharesTest {
         ofSorts();
         ofMarriages();
         ofShares();
+        ofTakenOnes();
         ofMoves();
         ofMovers();
         ofLeans();

@@ -861,6 +861,12 @@ public final class EdgesOfSheetsTest {
                 Edges.throwsNoSuch("what " + what, () -> x.line(0, 0, what));
             }
         });
+        Edges.edge("9: what 0: 0 a man, 1 a woman", () -> {
+            ReedSheets x = Edges.with("woman a 20;man b 20;woman c 20 wife b;");
+            for (int i = 0; i < 3; i++) {
+                Edges.due("line " + i, x.line(0, i, 0), 1 - i % 2);
+            }
+        });
         Edges.edge("9: NoSuchElementException: none such", () -> {
             ReedSheets x = Edges.with("man a 20;man b 21;");
             Edges.due("the last one", x.line(0, 1, 1), 21);
