@@ -607,23 +607,30 @@ public final class EdgesOfHousesTest {
         });
         Edges.edge("23: asked again it is the same, and anew when SHEETS change", () -> {
             ReedSheets x = new ReedSheets();
-            Edges.put(x, 9, 0, 1, PAIR_31);
+            Edges.put(x, 23, 0, 1, PAIR_31);
             Edges.put(x, 0, 0, 2, PAIR_45 + "man c 17" + BOTH + "man d 15" + BOTH + "woman e 17" + BOTH + "woman h 15" + BOTH);
             for (int i = 0; i < 3; i++) {
-                left(x, 9, 0, 1, 1);
-                left(x, 9, 1, 1, 1);
+                left(x, 23, 0, 1, 1);
+                left(x, 23, 1, 1, 1);
                 left(x, NONE, 1, 1, 1);
                 x.sheet(20 + i, 1, 0);
             }
             x.sheet(0, 0, 2);
-            left(x, 9, 0, 0, 0);
-            left(x, 9, 1, 0, 0);
+            left(x, 23, 0, 0, 0);
+            left(x, 23, 1, 0, 0);
             left(x, NONE, 0, 0, 0);
             Edges.read(x, 0, PAIR_45 + "woman e 15" + BOTH);
-            left(x, 9, 0, 0, 0);
-            left(x, 9, 1, 0, 1);
+            left(x, 23, 0, 0, 0);
+            left(x, 23, 1, 0, 1);
             x.forget(0);
-            left(x, 9, 1, 0, 0);
+            left(x, 23, 1, 0, 0);
+        });
+        Edges.edge("23: any LINE of the later one, the first and the last", () -> {
+            ReedSheets x = new ReedSheets();
+            Edges.put(x, 0, 0, 1, PAIR_31);
+            Edges.put(x, 1, 0, 2, "man c 17" + BOTH + "woman d 15" + BOTH + PAIR_45 + "woman e 17" + BOTH);
+            left(x, 0, 0, 1, 0);
+            left(x, 0, 1, 1, 1);
         });
         Edges.edge("23: as many as can be: 10 LINES of a SHEET of 12", () -> {
             StringBuilder ten = new StringBuilder();
@@ -686,8 +693,8 @@ public final class EdgesOfHousesTest {
             ReedSheets x = new ReedSheets();
             Edges.put(x, 0, 0, 1, PAIR_31 + "man k 9;");
             Edges.put(x, 1, 0, 2, PAIR_45 + "man c 16" + BOTH + "man d 18" + BOTH + "man e 15" + BOTH + "woman h 15" + BOTH
-                    + "woman i 17" + BOTH + "woman j 14" + BOTH);
-            int[][] want = {{1, 3, 4}, {1, 2, 3}};
+                    + "woman i 17" + BOTH + "woman j 14" + BOTH + "woman k 18" + BOTH + "woman l 19" + BOTH);
+            int[][] want = {{1, 3, 4}, {1, 4, 5}};
             for (int women = 0; women < 2; women++) {
                 for (int how = 0; how < 3; how++) {
                     Edges.due("young " + women + ", " + how, x.young(women, how), want[women][how]);

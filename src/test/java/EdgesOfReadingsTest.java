@@ -37,9 +37,10 @@ public final class EdgesOfReadingsTest {
         });
         Edges.edge("41: all READ SHEETS first, then without one of them, by numbers", () -> {
             ReedSheets x = new ReedSheets();
-            Edges.put(x, 23, 0, 0, Edges.weddings(4, 4));
-            Edges.put(x, 0, 0, 0, Edges.weddings(1, 1, 1));
-            Edges.put(x, 9, 0, 0, FULL_NOT);
+            x.side(5, 1);
+            Edges.put(x, 23, 5, 0, Edges.weddings(4, 4));
+            Edges.put(x, 0, 0, 7, Edges.weddings(1, 1, 1));
+            Edges.put(x, 9, 3, 3, FULL_NOT);
             x.sheet(5, 0, 0);
             // with all 1 of 6; without 0: 1 of 3; without 9: 0; without 23: 1 of 4; each 9 times: none is TAKEN IN
             int[][] want = {{1, 6}, {1, 3}, {0, 1}, {1, 4}};

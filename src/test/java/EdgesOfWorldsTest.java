@@ -328,6 +328,8 @@ public final class EdgesOfWorldsTest {
             Edges.due("no FULL one: each WORLD", x.rates(20, 40, 0, 0, 0), 20);
             Edges.put(x, 1, 5, 7, Edges.weddings(0));
             Edges.due("1 of 5: none with sisters", x.rates(20, 40, 0, 0, 0), 0);
+            x.side(5, 1);
+            Edges.due("on either SIDE", x.rates(20, 40, 0, 0, 0), 0);
             Edges.due("1 of 5", x.rates(20, 9, 0, 5, 6), rates(1, 5, 20, 9, 0, 5, 6, true));
             x.sheet(2, 0, 0);
             Edges.due("those not READ do not count", x.rates(20, 9, 0, 5, 6), rates(1, 5, 20, 9, 0, 5, 6, true));
