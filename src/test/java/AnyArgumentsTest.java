@@ -99,8 +99,10 @@ public final class AnyArgumentsTest {
         Random random = new Random(seed);
         ReedSheets x = new ReedSheets();
         for (int call = 0; call < 512; call++) {
-            if (random.nextInt(4) == 0) {
-                feed(x, TEXTS[random.nextInt(TEXTS.length)]);
+            String text = TEXTS[random.nextInt(TEXTS.length)];
+            if (random.nextInt(8) == 0 && call + text.length() / 24 + 2 < 512) {
+                feed(x, text);
+                call += (text.length() + 23) / 24;
             }
             Method m = random.nextInt(6) > 0 ? face[random.nextInt(face.length)]
                     : named(face, new String[] {"read", "law", "sheet"}[random.nextInt(3)]);
@@ -122,7 +124,7 @@ public final class AnyArgumentsTest {
 
     public static void main(String[] args) throws IllegalAccessException {
         checkFace();
-        for (long seed = 0; seed < 600; seed++) {
+        for (long seed = 0; seed < 900; seed++) {
             run(seed, face());
         }
         System.out.println(wrong == 0 ? "nothing throws that should not" : wrong + " calls were wrong");
